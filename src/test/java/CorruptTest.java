@@ -9,8 +9,12 @@ public final class CorruptTest {
         aForgeryAtOnceIsRefused(due);
         aForgeryInStepsIsRefused(due);
         theLatestBytesCountAndNoOlderOnes(due);
-        noBytesToChange(due);
-        wrongInputs(due);
+        bitsAboveTheBytesDoNotCount(due);
+        falseWhenItsDiskIsNotLive(due);
+        falseWhenItIsBlank(due);
+        noSuchCell(due);
+        noSuchCount(due);
+        noSuchPlace(due);
         due.end();
     }
 
@@ -22,6 +26,7 @@ public final class CorruptTest {
         return rack;
     }
 
+    /** "The n bytes of a cell from a place on become themselves ^ those of mask, lowest first: true." */
     private static void bytesTurnLowestFirst(Due due) {
         for (int count = 1; count <= 8; count++) {
             for (int p = 0; p <= 70 - count; p++) {
@@ -43,6 +48,7 @@ public final class CorruptTest {
         }
     }
 
+    /** Valid then with those bytes "that were written into it latest" is no refusal: true. */
     private static void theSameMaskTwiceMendsTheCell(Due due) {
         CellRack rack = written();
         due.is("mask 0", true, () -> rack.corrupt(9, 8, 62, 0, 8));
@@ -63,6 +69,7 @@ public final class CorruptTest {
         due.is("look(5)", 0, () -> rack.look(5));
     }
 
+    /** "False, and nothing changes .. if it would be valid then with other bytes than those .. written .. latest." */
     private static void aForgeryAtOnceIsRefused(Due due) {
         for (int k = 62; k < 66; k++) {
             int place = k;
@@ -78,6 +85,7 @@ public final class CorruptTest {
         }
     }
 
+    /** "False, and nothing changes .. if it would be valid then with other bytes than those .. written .. latest." */
     private static void aForgeryInStepsIsRefused(Due due) {
         CellRack rack = written();
         long turn = Due.checkTurn(rack, 9, 8, 0, 1);
@@ -95,7 +103,7 @@ public final class CorruptTest {
         due.is("cell", 2, () -> rack.cell(9, 8));
     }
 
-    /** The tag 1 becomes the tag 2 with its own check, which was written before, on a cell where it was not latest. */
+    /** ".. with other bytes than those that were written into it latest": those of an older write are others. */
     private static void theLatestBytesCountAndNoOlderOnes(Due due) {
         CellRack rack = new CellRack();
         rack.write(0, 0, 2);
@@ -117,32 +125,97 @@ public final class CorruptTest {
         due.is("tag", 1, () -> rack.tag(0, 0));
     }
 
-    private static void noBytesToChange(Due due) {
+    /** "The n bytes .. become themselves ^ those of mask" */
+    private static void bitsAboveTheBytesDoNotCount(Due due) {
+        for (int count = 1; count < 8; count++) {
+            int n = count;
+            CellRack rack = written();
+            due.is("only bits above " + n + " bytes", true, () -> rack.corrupt(9, 8, 10, -1L << (8 * n), n));
+            due.is("cell", 2, () -> rack.cell(9, 8));
+            due.is("the highest of them", true, () -> rack.corrupt(9, 8, 10, 1L << (8 * n - 1), n));
+            due.is("cell", 3, () -> rack.cell(9, 8));
+        }
         CellRack rack = written();
-        due.is("corrupt of a blank cell", false, () -> rack.corrupt(9, 9, 0, 1, 1));
-        due.is("it is blank", 1, () -> rack.cell(9, 9));
-        rack.fail(9);
-        due.is("corrupt of no live disk's cell", false, () -> rack.corrupt(9, 8, 0, 1, 1));
-        due.is("it is not live", 0, () -> rack.cell(9, 8));
-        due.refused("wrong n on it", IllegalArgumentException.class, () -> rack.corrupt(9, 8, 0, 1, 0));
-        due.refused("wrong n on a blank cell", IllegalArgumentException.class, () -> rack.corrupt(0, 0, 0, 1, 9));
+        int before = rack.at(9, 8, 17);
+        due.is("the highest bit of all", true, () -> rack.corrupt(9, 8, 10, Long.MIN_VALUE, 8));
+        due.is("at(9, 8, 17)", before ^ 128, () -> rack.at(9, 8, 17));
     }
 
-    private static void wrongInputs(Due due) {
+    /** "False, and nothing changes, when its disk is not live .." */
+    private static void falseWhenItsDiskIsNotLive(Due due) {
+        CellRack rack = written();
+        rack.fail(9);
+        due.is("corrupt of no live disk's cell", false, () -> rack.corrupt(9, 8, 0, 1, 1));
+        due.is("mask 0 on it", false, () -> rack.corrupt(9, 8, 0, 0, 1));
+        due.is("corrupt of its blank cell", false, () -> rack.corrupt(9, 0, 62, -1L, 8));
+        due.is("it is not live", 0, () -> rack.cell(9, 8));
+        due.is("look(5)", 0, () -> rack.look(5));
+        due.refused("wrong n on it", IllegalArgumentException.class, () -> rack.corrupt(9, 8, 0, 1, 0));
+        due.refused("wrong place on it", IllegalArgumentException.class, () -> rack.corrupt(9, 8, 70, 1, 1));
+        rack.replace(9);
+        due.is("corrupt of a new disk's cell", false, () -> rack.corrupt(9, 8, 0, 1, 1));
+    }
+
+    /** "False, and nothing changes, when .. it is blank .." */
+    private static void falseWhenItIsBlank(Due due) {
+        CellRack rack = written();
+        due.is("corrupt of a blank cell", false, () -> rack.corrupt(9, 9, 0, 1, 1));
+        due.is("mask 0 on it", false, () -> rack.corrupt(9, 9, 0, 0, 1));
+        due.is("it is blank", 1, () -> rack.cell(9, 9));
+        due.is("look(5)", 0, () -> rack.look(5));
+        due.refused("wrong n on it", IllegalArgumentException.class, () -> rack.corrupt(9, 9, 0, 1, 9));
+        due.refused("wrong place on it", IllegalArgumentException.class, () -> rack.corrupt(9, 9, -1, 1, 1));
+        rack.write(9, 9, 0);
+        due.is("at(9, 9, 0) once it is written", 0, () -> rack.at(9, 9, 0));
+        due.is("cell(9, 9) once it is written", 2, () -> rack.cell(9, 9));
+    }
+
+    /** "Throws IllegalArgumentException when there is no such cell .." */
+    private static void noSuchCell(Due due) {
+        CellRack rack = written();
+        for (int[] at : Due.NO_CELLS) {
+            due.refused("corrupt(" + at[0] + ", " + at[1] + ", 0, 1, 1)", IllegalArgumentException.class,
+                () -> rack.corrupt(at[0], at[1], 0, 1, 1));
+        }
+        due.is("look(5)", 0, () -> rack.look(5));
+        for (int[] at : Due.CORNERS) {
+            rack.write(at[0], at[1], 1);
+            due.is("corrupt(" + at[0] + ", " + at[1] + ", 0, 1, 1)", true,
+                () -> rack.corrupt(at[0], at[1], 0, 1, 1));
+        }
+        due.is("look(5)", 4, () -> rack.look(5));
+    }
+
+    /** "Throws IllegalArgumentException when .. n is not 1 .. 8 .." */
+    private static void noSuchCount(Due due) {
         CellRack rack = written();
         byte[] before = Due.bytesOf(rack, 9, 8);
-        int[][] wrong = {
-            {-1, 0, 0, 1}, {16, 0, 0, 1}, {9, -1, 0, 1}, {9, 66, 0, 1},
-            {9, 8, 0, 0}, {9, 8, 0, 9}, {9, 8, 0, -1}, {9, 8, -1, 1}, {9, 8, 70, 1}, {9, 8, 63, 8}, {9, 8, 66, 5},
-            {9, 8, 0, Integer.MIN_VALUE}, {9, 8, 0, Integer.MAX_VALUE},
-            {9, 8, Integer.MIN_VALUE, 1}, {9, 8, Integer.MAX_VALUE, 1}, {9, 8, Integer.MAX_VALUE, 8},
-            {Integer.MIN_VALUE, 8, 0, 1}, {Integer.MAX_VALUE, 8, 0, 1},
-            {9, Integer.MIN_VALUE, 0, 1}, {9, Integer.MAX_VALUE, 0, 1},
-        };
-        for (int[] w : wrong) {
-            due.refused("corrupt(" + w[0] + ", " + w[1] + ", " + w[2] + ", 1, " + w[3] + ")",
-                IllegalArgumentException.class, () -> rack.corrupt(w[0], w[1], w[2], 1, w[3]));
+        int[] wrong = {0, -1, -8, 9, 70, 71, Integer.MIN_VALUE, Integer.MIN_VALUE + 1, Integer.MAX_VALUE};
+        int[] places = {0, 61, 62, 69, 70};
+        for (int n : wrong) {
+            for (int place : places) {
+                due.refused("corrupt(9, 8, " + place + ", 1, " + n + ")", IllegalArgumentException.class,
+                    () -> rack.corrupt(9, 8, place, 1, n));
+            }
         }
         due.is("nothing changed", true, () -> Arrays.equals(before, Due.bytesOf(rack, 9, 8)));
+    }
+
+    /** "Throws IllegalArgumentException when .. place not 0 .. 70 - n." */
+    private static void noSuchPlace(Due due) {
+        for (int count = 1; count <= 8; count++) {
+            int n = count;
+            CellRack rack = written();
+            byte[] before = Due.bytesOf(rack, 9, 8);
+            int[] wrong = {-1, -n, 70 - n + 1, 70, 71, Integer.MIN_VALUE, Integer.MAX_VALUE, Integer.MAX_VALUE - n + 1};
+            for (int place : wrong) {
+                due.refused("corrupt(9, 8, " + place + ", 1, " + n + ")", IllegalArgumentException.class,
+                    () -> rack.corrupt(9, 8, place, 1, n));
+            }
+            due.is("nothing changed", true, () -> Arrays.equals(before, Due.bytesOf(rack, 9, 8)));
+            due.is("the first place", true, () -> rack.corrupt(9, 8, 0, 1, n));
+            due.is("the last place", true, () -> rack.corrupt(9, 8, 70 - n, 1L << (8 * n - 8), n));
+            due.is("byte 69", (before[69] ^ 1) & 255, () -> rack.at(9, 8, 69));
+        }
     }
 }

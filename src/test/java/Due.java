@@ -1,10 +1,24 @@
 import java.util.zip.CRC32C;
 
-/** What the tests share: answers that are due, and wrong ones told and counted. */
+/** What the tests share: answers that are due, wrong ones told and counted, and inputs at the edges. */
 final class Due {
     interface Call {
         Object answer();
     }
+
+    /** The first and the last cells of the first and the last disks. */
+    static final int[][] CORNERS = {{0, 0}, {0, 65}, {15, 0}, {15, 65}};
+
+    static final int[] NO_DISKS = {-1, 16, 17, 66, 256, -16, Integer.MIN_VALUE, Integer.MIN_VALUE + 1,
+        Integer.MAX_VALUE, Integer.MAX_VALUE - 1};
+
+    static final int[][] NO_CELLS = {{-1, 0}, {16, 0}, {-1, 65}, {16, 65}, {0, -1}, {0, 66}, {15, -1}, {15, 66},
+        {Integer.MIN_VALUE, 0}, {Integer.MAX_VALUE, 0}, {0, Integer.MIN_VALUE}, {0, Integer.MAX_VALUE},
+        {Integer.MIN_VALUE, Integer.MIN_VALUE}, {Integer.MAX_VALUE, Integer.MAX_VALUE},
+        // Counted on, these would be cells of other disks.
+        {1, -66}, {1, -1}, {-1, 66}, {-1, 131}, {16, -1}, {0, 67}, {0, 1055},
+        // 66 times these disks is a small number again once an int has wrapped round.
+        {65075263, 0}, {-65075262, 0}, {Integer.MIN_VALUE, 65}};
 
     private int asked = 0;
     private int wrong = 0;
@@ -41,6 +55,18 @@ final class Due {
 
     private static Object plain(Object answer) {
         return answer instanceof Number n ? (Object) n.longValue() : answer;
+    }
+
+    /** A call without an answer, so that it can be asked for like the others. */
+    static Object lost(CellRack rack, int n) {
+        rack.lose(n);
+        return "said";
+    }
+
+    /** Loses the power at a write on disk 0, or on disk 1 if that one is not live; the tape is empty then. */
+    static void turnOff(CellRack rack) {
+        rack.lose(1);
+        rack.write(rack.cell(0, 0) == 0 ? 1 : 0, 0, 0);
     }
 
     /** The check of bytes by the Java library's own CRC-32C, which is the one that the document tells. */

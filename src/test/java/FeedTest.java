@@ -4,12 +4,16 @@ public final class FeedTest {
         Due due = new Due();
         bytesComeLowestFirst(due);
         onlyTheLowestBytesCome(due);
-        fullTape(due);
-        wrongInputs(due);
+        signsDoNotMatter(due);
+        countsOutsideAreRefused(due);
+        theTapeTakesSixtyFourAndNoMore(due);
+        aRefusedFeedLeavesTheTape(due);
+        aTapeThatWasUsedUpIsEmpty(due);
         powerDoesNotMatter(due);
         due.end();
     }
 
+    /** "The n lowest bytes of v, lowest first, come behind the tape: how many it has." */
     private static void bytesComeLowestFirst(Due due) {
         CellRack rack = new CellRack();
         due.is("feed(3, 0x030201)", 3, () -> rack.feed(3, 0x030201L));
@@ -22,6 +26,7 @@ public final class FeedTest {
         }
     }
 
+    /** "The n lowest bytes of v .." */
     private static void onlyTheLowestBytesCome(Due due) {
         for (int count = 1; count <= 8; count++) {
             int n = count;
@@ -33,41 +38,92 @@ public final class FeedTest {
             due.is("the last byte fed", 255, () -> rack.at(0, 0, n - 1));
             due.is("a byte 0 behind it", 0, () -> rack.at(0, 0, n));
             due.is("and one more", 0x77, () -> rack.at(0, 0, n + 1));
+            due.is("and none more", 0, () -> rack.at(0, 0, n + 2));
         }
     }
 
-    private static void fullTape(Due due) {
-        CellRack rack = new CellRack();
-        for (int i = 1; i <= 7; i++) {
-            int times = i;
-            due.is("feed(8, ..)", 8 * times, () -> rack.feed(8, 0x1111111111111111L * times));
+    /** "The n lowest bytes of v .." */
+    private static void signsDoNotMatter(Due due) {
+        long[] all = {Long.MIN_VALUE, Long.MAX_VALUE, -1L, 0L, 1L, -128L, 128L, 0xFFL << 56};
+        for (long v : all) {
+            CellRack rack = new CellRack();
+            due.is("feed(8, " + v + ")", 8, () -> rack.feed(8, v));
+            rack.write(0, 0, 0);
+            rack.read(0, 0);
+            due.is("outs(0) of " + v, v, () -> rack.outs(0));
+            due.is("outs(8) of " + v, 0, () -> rack.outs(8));
         }
-        due.is("feed(7, ..) to 63", 63, () -> rack.feed(7, 0x99AABBCCDDEEFFL));
-        due.refused("feed(2, 1) to 65", IllegalStateException.class, () -> rack.feed(2, 1));
-        due.is("feed(1, 0x42) to 64", 64, () -> rack.feed(1, 0x42L));
-        due.refused("feed(1, 1) to 65", IllegalStateException.class, () -> rack.feed(1, 1));
-        due.refused("feed(8, 1) to 72", IllegalStateException.class, () -> rack.feed(8, 1));
-        due.refused("feed(9, 1): n comes first", IllegalArgumentException.class, () -> rack.feed(9, 1));
-        rack.write(15, 65, 65535);
-        rack.read(15, 65);
-        due.is("outs(48)", 0x7777777777777777L, () -> rack.outs(48));
-        due.is("outs(56)", 0x4299AABBCCDDEEFFL, () -> rack.outs(56));
-        due.is("feed after the tape was used up", 1, () -> rack.feed(1, 1));
     }
 
-    private static void wrongInputs(Due due) {
+    /** "Throws IllegalArgumentException when n is not 1 .. 8" */
+    private static void countsOutsideAreRefused(Due due) {
         CellRack rack = new CellRack();
-        int[] wrong = {0, -1, 9, 64, Integer.MIN_VALUE, Integer.MAX_VALUE};
+        int[] wrong = {0, -1, -8, 9, 64, 65, 257, Integer.MIN_VALUE, Integer.MIN_VALUE + 1,
+            Integer.MAX_VALUE, Integer.MAX_VALUE - 63};
         for (int n : wrong) {
             due.refused("feed(" + n + ", 1)", IllegalArgumentException.class, () -> rack.feed(n, 1));
         }
-        due.is("nothing has come", 1, () -> rack.feed(1, 0));
+        due.is("feed(1, 0), the least", 1, () -> rack.feed(1, 0));
+        due.is("feed(8, 0), the most", 9, () -> rack.feed(8, 0));
+        for (int n : wrong) {
+            due.refused("feed(" + n + ", 1)", IllegalArgumentException.class, () -> rack.feed(n, 1));
+        }
+        due.is("nothing has come", 10, () -> rack.feed(1, 0));
+    }
+
+    /** "IllegalStateException when it would have more than 64." */
+    private static void theTapeTakesSixtyFourAndNoMore(Due due) {
+        for (int length = 0; length <= 64; length++) {
+            for (int count = 1; count <= 8; count++) {
+                int n = count;
+                CellRack rack = tapeOf(length);
+                Object want = length + n <= 64 ? (Object) (length + n) : "throws.IllegalStateException";
+                due.is("feed(" + n + ", -1) on a tape of " + length, want, () -> rack.feed(n, -1L));
+            }
+        }
+    }
+
+    private static CellRack tapeOf(int length) {
+        CellRack rack = new CellRack();
+        for (int i = 0; i < length; i++) {
+            rack.feed(1, i + 1);
+        }
+        return rack;
+    }
+
+    /** "IllegalStateException when it would have more than 64.", and "a call that throws changes nothing" */
+    private static void aRefusedFeedLeavesTheTape(Due due) {
+        for (int length = 57; length <= 64; length++) {
+            CellRack rack = tapeOf(length);
+            due.refused("feed(8, -1) on a tape of " + length, IllegalStateException.class, () -> rack.feed(8, -1L));
+            due.refused("feed(0, -1) on a tape of " + length, IllegalArgumentException.class, () -> rack.feed(0, -1L));
+            for (int n = length + 1; n <= 64; n++) {
+                int want = n;
+                due.is("feed(1, 99) to " + n, want, () -> rack.feed(1, 99));
+            }
+            due.refused("feed(1, -1) on a tape of 64", IllegalStateException.class, () -> rack.feed(1, -1L));
+            rack.write(15, 65, 65535);
+            for (int i = 0; i < 64; i++) {
+                int k = i;
+                due.is("byte " + k, k < length ? k + 1 : 99, () -> rack.at(15, 65, k));
+            }
+            due.is("byte 64", 255, () -> rack.at(15, 65, 64));
+        }
+    }
+
+    private static void aTapeThatWasUsedUpIsEmpty(Due due) {
+        CellRack rack = tapeOf(64);
+        rack.write(0, 0, 0);
+        for (int i = 1; i <= 8; i++) {
+            int n = 8 * i;
+            due.is("feed(8, 0) to " + n, n, () -> rack.feed(8, 0));
+        }
+        due.refused("feed(8, 0) to 72", IllegalStateException.class, () -> rack.feed(8, 0));
     }
 
     private static void powerDoesNotMatter(Due due) {
         CellRack rack = new CellRack();
-        rack.lose(1);
-        rack.write(0, 0, 0);
+        Due.turnOff(rack);
         due.is("feed with the power off", 2, () -> rack.feed(2, 0x0201L));
         rack.power();
         due.is("the tape stays", 3, () -> rack.feed(1, 3));

@@ -2,45 +2,99 @@ import java.util.NoSuchElementException;
 
 /** Promise 4. */
 public final class ReadTest {
+    private static final long DATA = 0x0807060504030201L;
+
     public static void main(String[] args) {
         Due due = new Due();
-        validOrNot(due);
+        aValidCellIsTheOut(due);
+        allSixtyFourBytesAreTheOut(due);
+        aBlankCellEmptiesTheOut(due);
+        aBrokenCellEmptiesTheOut(due);
+        aCellOfNoLiveDiskEmptiesTheOut(due);
         theOutIsOfTheTimeOfReading(due);
-        wrongInputs(due);
+        powerDoesNotMatter(due);
+        noSuchCell(due);
         due.end();
     }
 
     private static CellRack written() {
         CellRack rack = new CellRack();
-        rack.feed(8, 0x0807060504030201L);
+        rack.feed(8, DATA);
         rack.write(1, 2, 3);
         return rack;
     }
 
-    private static void outIsEmpty(Due due, CellRack rack) {
+    /** The OUT is full first, so that it is seen whether it is emptied. */
+    private static void emptied(Due due, CellRack rack, int disk, int cell) {
+        due.is("outs(63) before", 0, () -> rack.outs(63));
+        due.is("read(" + disk + ", " + cell + ")", false, () -> rack.read(disk, cell));
         due.refused("outs(0) of an empty OUT", NoSuchElementException.class, () -> rack.outs(0));
         due.refused("outs(63) of an empty OUT", NoSuchElementException.class, () -> rack.outs(63));
+        due.is("read once more", false, () -> rack.read(disk, cell));
     }
 
-    private static void validOrNot(Due due) {
+    /** "Whether a cell is valid; its data are the OUT then .." */
+    private static void aValidCellIsTheOut(Due due) {
         CellRack rack = written();
-        due.is("read of a valid cell", true, () -> rack.read(1, 2));
-        due.is("outs(0)", 0x0807060504030201L, () -> rack.outs(0));
-        due.is("read of a blank cell", false, () -> rack.read(1, 3));
-        outIsEmpty(due, rack);
+        due.is("read(1, 2)", true, () -> rack.read(1, 2));
+        due.is("outs(0)", DATA, () -> rack.outs(0));
+        rack.feed(8, ~DATA);
+        rack.write(15, 65, 0);
+        due.is("read(15, 65)", true, () -> rack.read(15, 65));
+        due.is("outs(0)", ~DATA, () -> rack.outs(0));
+        due.is("read(1, 2)", true, () -> rack.read(1, 2));
+        due.is("outs(0)", DATA, () -> rack.outs(0));
+        due.is("feed(1, 1): the tape is not touched", 1, () -> rack.feed(1, 1));
+    }
+
+    /** ".. its data are the OUT then .." */
+    private static void allSixtyFourBytesAreTheOut(Due due) {
+        CellRack rack = new CellRack();
+        for (int i = 1; i <= 8; i++) {
+            rack.feed(8, DATA * i);
+        }
+        rack.write(9, 9, 65535);
+        rack.read(9, 9);
+        for (int i = 1; i <= 8; i++) {
+            int n = i;
+            due.is("outs(" + 8 * (n - 1) + ")", DATA * n, () -> rack.outs(8 * (n - 1)));
+        }
+        due.refused("outs(64): the tag is no data", NoSuchElementException.class, () -> rack.outs(64));
+    }
+
+    /** ".. or else this is empty." */
+    private static void aBlankCellEmptiesTheOut(Due due) {
+        CellRack rack = written();
         rack.read(1, 2);
-        rack.corrupt(1, 2, 69, 128, 1);
-        due.is("read of a broken cell", false, () -> rack.read(1, 2));
-        outIsEmpty(due, rack);
-        rack.corrupt(1, 2, 69, 128, 1);
-        due.is("read of a cell that is valid again", true, () -> rack.read(1, 2));
-        due.is("outs(0)", 0x0807060504030201L, () -> rack.outs(0));
+        emptied(due, rack, 1, 3);
+        rack.read(1, 2);
+        emptied(due, rack, 15, 65);
+    }
+
+    /** ".. or else this is empty." */
+    private static void aBrokenCellEmptiesTheOut(Due due) {
+        int[] places = {0, 63, 64, 65, 66, 69};
+        for (int place : places) {
+            CellRack rack = written();
+            rack.read(1, 2);
+            rack.corrupt(1, 2, place, 128, 1);
+            emptied(due, rack, 1, 2);
+            rack.corrupt(1, 2, place, 128, 1);
+            due.is("read of a cell that is valid again", true, () -> rack.read(1, 2));
+            due.is("outs(0)", DATA, () -> rack.outs(0));
+        }
+    }
+
+    /** ".. or else this is empty." */
+    private static void aCellOfNoLiveDiskEmptiesTheOut(Due due) {
+        CellRack rack = written();
+        rack.write(0, 0, 0);
+        rack.read(1, 2);
         rack.fail(1);
-        due.is("read of no live disk's cell", false, () -> rack.read(1, 2));
-        outIsEmpty(due, rack);
+        emptied(due, rack, 1, 2);
         rack.replace(1);
-        due.is("read of a new disk's cell", false, () -> rack.read(1, 2));
-        outIsEmpty(due, rack);
+        rack.read(0, 0);
+        emptied(due, rack, 1, 2);
     }
 
     private static void theOutIsOfTheTimeOfReading(Due due) {
@@ -48,24 +102,32 @@ public final class ReadTest {
         rack.read(1, 2);
         rack.feed(1, 99);
         rack.write(1, 2, 4);
+        due.is("outs(0) behind a write", DATA, () -> rack.outs(0));
         rack.corrupt(1, 2, 0, 1, 1);
+        due.is("outs(0) behind corrupt", DATA, () -> rack.outs(0));
         rack.fail(1);
-        rack.lose(1);
-        rack.write(0, 0, 0);
-        due.is("outs(0)", 0x0807060504030201L, () -> rack.outs(0));
-        due.is("read with the power off", false, () -> rack.read(0, 0));
-        outIsEmpty(due, rack);
+        due.is("outs(0) behind fail", DATA, () -> rack.outs(0));
     }
 
-    private static void wrongInputs(Due due) {
+    private static void powerDoesNotMatter(Due due) {
+        CellRack rack = written();
+        Due.turnOff(rack);
+        due.is("read with the power off", true, () -> rack.read(1, 2));
+        due.is("outs(0)", DATA, () -> rack.outs(0));
+        due.is("look(1)", 1, () -> rack.look(1));
+    }
+
+    /** "Throws IllegalArgumentException when there is no such cell." */
+    private static void noSuchCell(Due due) {
         CellRack rack = written();
         rack.read(1, 2);
-        int[][] wrong = {{-1, 2}, {16, 2}, {1, -1}, {1, 66}, {0, 68}, {2, -64},
-            {Integer.MIN_VALUE, 0}, {Integer.MAX_VALUE, 0}, {0, Integer.MIN_VALUE}, {0, Integer.MAX_VALUE}};
-        for (int[] w : wrong) {
-            due.refused("read(" + w[0] + ", " + w[1] + ")", IllegalArgumentException.class,
-                () -> rack.read(w[0], w[1]));
+        for (int[] at : Due.NO_CELLS) {
+            due.refused("read(" + at[0] + ", " + at[1] + ")", IllegalArgumentException.class,
+                () -> rack.read(at[0], at[1]));
         }
-        due.is("the OUT is as it was", 0x0807060504030201L, () -> rack.outs(0));
+        due.is("the OUT is as it was", DATA, () -> rack.outs(0));
+        for (int[] at : Due.CORNERS) {
+            due.is("read(" + at[0] + ", " + at[1] + ")", false, () -> rack.read(at[0], at[1]));
+        }
     }
 }
